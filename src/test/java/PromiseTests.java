@@ -475,6 +475,11 @@ public final class PromiseTests {
         due("entry(100, 50) has the value that went over", x.entry(100, 50), 7);
         due("entries(100)", x.entries(100), 1);
         due("misplaced()", x.misplaced(), 0);
+        joinNow(x, 120, 100);
+        stabiliseNow(x, 120);
+        stabiliseNow(x, 100);
+        due("predecessor(120)", x.predecessor(120), 100);
+        due("120 has none that could go over: 100's stays", x.entry(100, 50), 7);
     }
 
     private static void stabiliseBehindStore(FingerOverlay x, int id) {
@@ -1017,6 +1022,8 @@ public final class PromiseTests {
             due("178's finger " + j, x.wrong(), 7 - j);
         }
         due("178 + 128 is 50", x.finger(178, 7), 50);
+        due("neighbours: fingers alone are wrong", ring(49, 50, 51).wrong(), 24);
+        due("neighbours round the circle", ring(0, 1, 255).wrong(), 24);
     }
 
     private static void misplaced() {
