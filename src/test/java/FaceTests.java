@@ -120,7 +120,6 @@ public final class FaceTests {
                 int a = odd[random.nextInt(odd.length)];
                 int b = odd[random.nextInt(odd.length)];
                 call(x, random.nextInt(20), a, b);
-                due("flying() is 0 .. 20", x.flying() >= 0 && x.flying() <= 20, true);
             }
         }
     }
