@@ -2,6 +2,8 @@
 public final class MessageEdges extends Edges {
     public static void main(String[] args) {
         section("Terms");
+        test("When it ARRIVES there, it is taken out of the row, and then, by its kind, the following is done",
+                MessageEdges::whatHoldsWhenItArrives);
         test("a number of hops, 0 when a call sends it", MessageEdges::hopsAre0AtFirst);
         test("If the key is past n up to n's successor, then", MessageEdges::eachPurposeAtTheLastMember);
         test("purpose JOIN or FINGER: FOUND goes to the asker with n's successor and the hops",
@@ -11,6 +13,7 @@ public final class MessageEdges extends Edges {
         test("Otherwise the same FIND, with one hop more, goes to another member", MessageEdges::oneHopMore);
         test("of n's fingers that are between n and the key the one with the greatest number",
                 MessageEdges::theGreatestNumber);
+        test("of n's fingers that are between n and the key", MessageEdges::eachFingerCounts);
         test("or, if there is none, n's successor", MessageEdges::ifThereIsNoneTheSuccessor);
 
         test("the member found becomes n's successor, and n, which has no predecessor, no fingers and no entries,"
@@ -30,9 +33,57 @@ public final class MessageEdges extends Edges {
         test("or m is between n's predecessor and n, then m becomes n's predecessor",
                 MessageEdges::notifiedFromBetween);
         test("all entries of n whose keys are not past m up to n go over to m", MessageEdges::keysThatGoOver);
+        test("all entries of n", MessageEdges::whatNDoesNotHaveStays);
         test("(where m has an entry for such a key, it gets the value of n's)", MessageEdges::goingOverReplaces);
         test("Otherwise nothing is done", MessageEdges::otherwiseNothingIsDone);
         finish();
+    }
+
+    /** Between sending and arrival 45 has joined and stabilised: pointers and entries are those of the arrival. */
+    private static void whatHoldsWhenItArrives() {
+        Run ask = ring(10, 80);
+        ask.stabilise(10).is(true);
+        ask.joinOver(45, 10);
+        ask.predecessor(80).is(45);
+        ask.message(0).is(ASK + 80);
+        ask.deliver(0).is(6);
+        ask.deliver(0).is(7);
+        ask.successor(10).is(45);
+
+        Run find = ring(10, 80);
+        find.get(10, 40).is(true);
+        find.joinOver(45, 10);
+        find.stabiliseOver(10);
+        find.deliver(0).is(1);
+        find.message(0).is(FETCH + 45);
+
+        Run fetch = ring(10, 80);
+        fetch.putNow(10, 40, 1);
+        fetch.get(10, 40).is(true);
+        fetch.deliver(0).is(1);
+        fetch.joinOver(45, 10);
+        fetch.message(0).is(FETCH + 80);
+        fetch.deliver(0).is(4);
+        fetch.putNow(10, 40, 2);
+        fetch.answer(10).is(ABSENT);
+
+        Run reply = alone(10);
+        reply.putNow(10, 40, 1);
+        reply.get(10, 40).is(true);
+        reply.pump(2).is(2);
+        reply.put(10, 40, 2).is(true);
+        reply.deliver(1).is(1);
+        reply.deliver(1).is(3);
+        reply.deliver(0).is(5);
+        reply.answer(10).is(1);
+        reply.entry(10, 40).is(2);
+
+        Run none = alone(10);
+        none.stabilise(10).is(true);
+        none.joinOver(80, 10);
+        none.deliver(0).is(6);
+        none.deliver(0).is(7);
+        none.successor(10).is(80);
     }
 
     /** Behind messages that had hops, so that what was in the row before does not matter. */
@@ -192,6 +243,23 @@ public final class MessageEdges extends Edges {
         y.fixNow(0, 7);
         goesTo(y, 0, 250, FIND + 200);
         goesTo(y, 0, 200, FIND + 40);
+    }
+
+    /** The finger was found before 1 joined, so that it is another than the successor. */
+    private static void eachFingerCounts() {
+        for (int j = 0; j < 8; j++) {
+            Run x = ring(0, 200);
+            x.fixNow(0, j);
+            x.finger(0, j).is(200);
+            x.joinNow(1, 0);
+            x.stabiliseNow(1);
+            x.stabiliseNow(0);
+            x.successor(0).is(1);
+            goesTo(x, 0, 201, FIND + 200);
+            goesTo(x, 0, 0, FIND + 200);
+            goesTo(x, 0, 200, FIND + 1);
+            goesTo(x, 0, 2, FIND + 1);
+        }
     }
 
     private static void goesTo(Run x, int id, int key, int message) {
@@ -561,6 +629,21 @@ public final class MessageEdges extends Edges {
         neighbour.entries(10).is(1);
         neighbour.entry(10, 10).is(10);
         neighbour.entries(9).is(4);
+    }
+
+    /** 120 has no entries that could go over to 100, which keeps its own. */
+    private static void whatNDoesNotHaveStays() {
+        Run x = ring(0, 100);
+        x.putNow(0, 50, 7);
+        x.putNow(0, 100, 8);
+        x.joinNow(120, 100);
+        x.stabiliseNow(120);
+        x.stabiliseNow(100);
+        x.predecessor(120).is(100);
+        x.entry(100, 50).is(7);
+        x.entry(100, 100).is(8);
+        x.entries(100).is(2);
+        x.entries(120).is(0);
     }
 
     /** STORE for 50 comes late to 200, when 100 has an entry for 50 of its own. */

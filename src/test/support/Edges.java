@@ -48,7 +48,11 @@ abstract class Edges {
         if (!sectionText.contains(words)) {
             failed("the document does not say so");
         }
-        body.run();
+        try {
+            body.run();
+        } catch (RuntimeException | StackOverflowError problem) {
+            failed("a call threw " + problem);
+        }
     }
 
     static void failed(String what) {
