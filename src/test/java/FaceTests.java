@@ -15,19 +15,13 @@ import java.util.regex.Pattern;
 /** The public face of the document, and those rules of LANGUAGE.md that can be seen from outside. */
 public final class FaceTests {
     private static final Path SOURCE = Path.of("src/main/java/FingerOverlay.java");
-    private static final Set<String> METHODS = new TreeSet<>(Arrays.asList(
-            "boolean create(int)", "boolean join(int, int)", "boolean stabilise(int)", "boolean fix(int, int)",
-            "boolean put(int, int, int)", "boolean get(int, int)", "int deliver(int)", "int pump(int)",
-            "int flying()", "int message(int)", "int successor(int)", "int predecessor(int)",
-            "int finger(int, int)", "long entry(int, int)", "int entries(int)", "long answer(int)",
-            "int hops(int)", "int owner(int)", "int wrong()", "int misplaced()"));
-    private static final Set<String> CONSTANTS = new TreeSet<>(Arrays.asList("int NONE", "long ABSENT", "long NOTHING"));
+    private static final Path DOCUMENT = Path.of("../shared/DOC.md");
 
     private static int failures = 0;
 
-    public static void main(String[] args) throws IOException {
+    public static void main(String[] args) throws IOException, IllegalAccessException {
         face();
-        constants();
+        privateMethods();
         nestedClasses();
         words();
         nothingThrows();
@@ -44,55 +38,89 @@ public final class FaceTests {
         }
     }
 
-    private static void face() {
-        Class<?> c = FingerOverlay.class;
-        due("class", Modifier.toString(c.getModifiers()), "public final");
-        Set<String> open = new TreeSet<>();
-        Set<String> openNames = new TreeSet<>();
-        for (Method m : c.getDeclaredMethods()) {
-            if (!Modifier.isPrivate(m.getModifiers())) {
-                due(m.getName(), Modifier.toString(m.getModifiers()), "public");
-                String parameters = Arrays.toString(m.getParameterTypes());
-                open.add(m.getReturnType() + " " + m.getName() + "(" + parameters.substring(1, parameters.length() - 1) + ")");
-                openNames.add(m.getName());
+    /** The lines of the document's face between the class's own line and its last bracket, each without its end. */
+    private static Set<String> documentFace() throws IOException {
+        String text = Files.readString(DOCUMENT);
+        Matcher face = Pattern.compile("(?s)## The public face\\s+```java\\s+public final class FingerOverlay \\{(.*?)\\}")
+                .matcher(text);
+        due("the document has a face", face.find(), true);
+        Set<String> lines = new TreeSet<>();
+        for (String line : face.group(1).split(";")) {
+            if (!line.isBlank()) {
+                lines.add(line.trim().replaceAll("(int|long|boolean) \\w+(?=[,)])", "$1"));
             }
         }
-        due("methods", open, METHODS);
-        for (Method m : c.getDeclaredMethods()) {
+        return lines;
+    }
+
+    private static void face() throws IOException, IllegalAccessException {
+        Set<String> open = openConstants();
+        open.addAll(openMethods());
+        for (Constructor<?> constructor : FingerOverlay.class.getDeclaredConstructors()) {
+            open.add(constructor.toString());
+        }
+        due("the face", open, documentFace());
+        due("class", Modifier.toString(FingerOverlay.class.getModifiers()), "public final");
+    }
+
+    private static Set<String> openMethods() {
+        Set<String> open = new TreeSet<>();
+        for (Method m : FingerOverlay.class.getDeclaredMethods()) {
+            if (!Modifier.isPrivate(m.getModifiers())) {
+                String parameters = Arrays.toString(m.getParameterTypes());
+                open.add(Modifier.toString(m.getModifiers()) + " " + m.getReturnType() + " " + m.getName() + "("
+                        + parameters.substring(1, parameters.length() - 1) + ")");
+            }
+        }
+        return open;
+    }
+
+    private static Set<String> openConstants() throws IllegalAccessException {
+        Set<String> open = new TreeSet<>();
+        for (Field f : FingerOverlay.class.getDeclaredFields()) {
+            if (!Modifier.isPrivate(f.getModifiers())) {
+                String value = f.get(null) + (f.getType() == long.class ? "L" : "");
+                open.add(Modifier.toString(f.getModifiers()) + " " + f.getType() + " " + f.getName() + " = " + value);
+            }
+        }
+        return open;
+    }
+
+    private static void privateMethods() {
+        Set<String> openNames = new TreeSet<>();
+        for (Method m : FingerOverlay.class.getMethods()) {
+            openNames.add(m.getName());
+        }
+        for (Method m : FingerOverlay.class.getDeclaredMethods()) {
             if (Modifier.isPrivate(m.getModifiers()) && openNames.contains(m.getName())) {
                 due("private method", m.getName(), "another name than a public one");
             }
-            due(m.getName() + " has at most seven parameters", m.getParameterCount() <= 7, true);
         }
-        Constructor<?>[] constructors = c.getDeclaredConstructors();
-        due("constructors", constructors.length, 1);
-        due("constructor", constructors[0].toString(), "public FingerOverlay()");
-    }
-
-    private static void constants() {
-        Set<String> open = new TreeSet<>();
-        for (Field f : FingerOverlay.class.getDeclaredFields()) {
-            int modifiers = f.getModifiers();
-            if (!Modifier.isPrivate(modifiers)) {
-                due(f.getName(), Modifier.toString(modifiers), "public static final");
-                open.add(f.getType() + " " + f.getName());
-            }
-            if (Modifier.isStatic(modifiers)) {
-                due("static " + f.getName() + " is final", Modifier.isFinal(modifiers), true);
-            }
-        }
-        due("constants", open, CONSTANTS);
-        due("NONE", FingerOverlay.NONE, -1);
-        due("ABSENT", FingerOverlay.ABSENT, 4294967296L);
-        due("NOTHING", FingerOverlay.NOTHING, 8589934592L);
     }
 
     private static void nestedClasses() {
         Class<?>[] inside = FingerOverlay.class.getDeclaredClasses();
         due("at most twelve classes", inside.length + 1 <= 12, true);
+        sizes(FingerOverlay.class);
         for (Class<?> c : inside) {
             due(c.getName() + " is static", Modifier.isStatic(c.getModifiers()), true);
             due(c.getName() + " is not open", Modifier.isPublic(c.getModifiers()) || Modifier.isProtected(c.getModifiers()), false);
+            sizes(c);
+        }
+    }
+
+    private static void sizes(Class<?> c) {
+        int fields = 0;
+        for (Field f : c.getDeclaredFields()) {
+            if (Modifier.isStatic(f.getModifiers())) {
+                due("static " + f.getName() + " is final", Modifier.isFinal(f.getModifiers()), true);
+            } else {
+                fields++;
+            }
+        }
+        due(c.getName() + " has at most twenty fields", fields <= 20, true);
+        for (Method m : c.getDeclaredMethods()) {
+            due(m.getName() + " has at most seven parameters", m.getParameterCount() <= 7, true);
         }
     }
 
